@@ -685,8 +685,8 @@ public final class LinenTunnel {
     }
 
     /**
-     * Finds the best order over sets of batches that are set already: what is
-     * dearest behind them depends on the set and its last batch alone.
+     * Finds the best order. What is cheapest behind some batches depends on which
+     * they are and on the last of them alone, so a row of such costs is enough.
      */
     private static final class Planner {
         private final Waiting waiting;

