@@ -21,6 +21,10 @@ final class Due {
         }
     }
 
+    int answers() {
+        return answers;
+    }
+
     boolean hasWrong() {
         return wrong > 0;
     }

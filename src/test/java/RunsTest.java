@@ -1,6 +1,8 @@
 /** Runs of drawn calls: each answer of LinenTunnel is that of NaiveHouse. */
 public final class RunsTest {
-    private static final int RUNS = 600, CALLS = 500, HAND = 8, WASH = 20;
+    private static final int RUNS = 1000, HAND = 8, WASH = 20;
+    // a wash is followed by 12 times 7 looks at its runs, and each step perhaps by two more
+    private static final int CALLS = 512, MOST_OF_A_STEP = 1 + 12 * 7 + 2;
     private static final int[] ODD = {
         -1, -2, -3, -100, Integer.MIN_VALUE, Integer.MAX_VALUE, Integer.MIN_VALUE + 1, 1 << 16, 1 << 30, 61, 101,
     };
@@ -34,6 +36,7 @@ public final class RunsTest {
     }
 
     private void callAll(int run) {
+        int before = due.answers();
         int kinds = draw(4) == 0 ? 8 : 3;
         for (int k = 0; k < kinds; k++) {
             call(run, 0);
@@ -42,15 +45,15 @@ public final class RunsTest {
         for (int p = 0; p < pieces; p++) {
             call(run, 1);
         }
-        for (int step = kinds + pieces; step < CALLS; step++) {
+        for (int step = 0; due.answers() - before <= CALLS - MOST_OF_A_STEP; step++) {
             int number = drawCall();
             if (number == WASH && hoards && draw(8) > 0) {
                 number = HAND;
             }
             call(run, number);
             if (step % 8 == 0) {
-                due.is("run " + run + ", call " + step + ": digest", x.digest(), y.digest());
-                due.is("run " + run + ", call " + step + ": count(6)", x.count(6), y.count(6));
+                due.is("run " + run + ", step " + step + ": digest", x.digest(), y.digest());
+                due.is("run " + run + ", step " + step + ": count(6)", x.count(6), y.count(6));
             }
         }
     }
