@@ -1,6 +1,9 @@
+import java.util.List;
+
 /** Runs of drawn calls: each answer of LinenTunnel is that of NaiveHouse. */
 public final class RunsTest {
-    private static final int RUNS = 1000, HAND = 8, WASH = 20;
+    private static final int RUNS = 3000, KIND = 0, PIECE = 1, HAND = 8, WASH = 20, SHEET = 22;
+    private static final int OUT = 0, CLEAN = 3, LOST = 4;
     // a wash is followed by 12 times 7 looks at its runs, and each step perhaps by two more
     private static final int CALLS = 512, MOST_OF_A_STEP = 1 + 12 * 7 + 2;
     private static final int[] ODD = {
@@ -10,8 +13,8 @@ public final class RunsTest {
     private static final int[] OFTEN = {
         4, 14, 6, 2, 3, 3, 3, 6, 12, 12,
         4, 3, 5, 2, 2, 1, 2, 4,
-        3, 3, 2, 4,
-        3, 12, 1, 5, 5, 5, 3, 10,
+        3, 3, 4, 4,
+        3, 12, 1, 5, 5, 5, 3, 14,
     };
 
     private static final Due due = new Due("RunsTest");
@@ -19,38 +22,37 @@ public final class RunsTest {
 
     private final LinenTunnel x = new LinenTunnel();
     private final NaiveHouse y = new NaiveHouse();
+    private final int run;
     private final int odd;
+    private final int owners;
     private final boolean hoards;
 
-    private RunsTest(int odd, boolean hoards) {
-        this.odd = odd;
-        this.hoards = hoards;
+    private RunsTest(int run) {
+        this.run = run;
+        odd = run % 4 == 0 ? 12 : run % 4 == 1 ? 60 : 1000;
+        owners = run % 5 == 0 ? 6 : 1 + run % 3;
+        hoards = run % 3 == 0;
     }
 
     public static void main(String[] args) {
         for (int run = 0; run < RUNS && !due.hasWrong(); run++) {
-            int odd = run % 4 == 0 ? 12 : run % 4 == 1 ? 60 : 1000;
-            new RunsTest(odd, run % 3 == 0).callAll(run);
+            new RunsTest(run).callAll();
         }
         due.end();
     }
 
-    private void callAll(int run) {
+    private void callAll() {
         int before = due.answers();
-        int kinds = draw(4) == 0 ? 8 : 3;
-        for (int k = 0; k < kinds; k++) {
-            call(run, 0);
-        }
-        int pieces = hoards ? 60 : 20;
-        for (int p = 0; p < pieces; p++) {
-            call(run, 1);
-        }
+        callSome(KIND, draw(4) == 0 ? 8 : 3);
+        callSome(PIECE, run % 6 == 0 ? 98 : hoards ? 60 : 20);
+        callSome(SHEET, run % 2 == 0 ? 6 : 0);
+        callSome(HAND, hoards ? 40 : 0);
         for (int step = 0; due.answers() - before <= CALLS - MOST_OF_A_STEP; step++) {
             int number = drawCall();
             if (number == WASH && hoards && draw(8) > 0) {
                 number = HAND;
             }
-            call(run, number);
+            call(number);
             if (step % 8 == 0) {
                 due.is("run " + run + ", step " + step + ": digest", x.digest(), y.digest());
                 due.is("run " + run + ", step " + step + ": count(6)", x.count(6), y.count(6));
@@ -58,7 +60,13 @@ public final class RunsTest {
         }
     }
 
-    private void call(int run, int number) {
+    private void callSome(int number, int times) {
+        for (int k = 0; k < times; k++) {
+            call(number);
+        }
+    }
+
+    private void call(int number) {
         String name = "run " + run + ": ";
         if (number <= 9) {
             pieceCall(name, number);
@@ -72,8 +80,8 @@ public final class RunsTest {
     }
 
     private void pieceCall(String name, int number) {
-        int a = number == 0 ? value(0, 3) : number == 1 || number == 6 ? kindOf(number) : pieceOf();
-        int b = number == 0 ? value(0, 2) : number == 2 ? value(0, 5) : value(number == 6 ? -1 : 0, 5);
+        int a = number == 0 ? value(0, 3) : number == 1 || number == 6 ? kindOf(number) : pieceFor(number);
+        int b = number == 0 ? value(0, 2) : number == 2 ? value(0, 5) : ownerOf(number == 6 ? -1 : 0);
         int c = value(0, number == 0 ? 9 : 4);
         int e = value(0, 9);
         boolean can = draw(4) > 0;
@@ -152,13 +160,17 @@ public final class RunsTest {
                 }
                 break;
             }
-            default: {
-                int owner = value(0, 5);
-                int kind = kindOf(1);
-                int n = draw(4) == 0 ? value(1, 40) : value(1, 4);
-                due.is(say(name, "pack", owner, kind, n), x.pack(owner, kind, n), y.pack(owner, kind, n));
-            }
+            default: packSome(name); break;
         }
+    }
+
+    private void packSome(String name) {
+        NaiveHouse.Piece clean = y.pieceOf(pieceAt(CLEAN));
+        boolean isLike = clean != null && draw(4) > 0;
+        int owner = isLike ? clean.owner : ownerOf(0);
+        int kind = isLike ? clean.kind : kindOf(1);
+        int n = draw(4) == 0 ? value(1, 40) : value(1, 4);
+        due.is(say(name, "pack", owner, kind, n), x.pack(owner, kind, n), y.pack(owner, kind, n));
     }
 
     private void sheetCall(String name, int number) {
@@ -184,7 +196,7 @@ public final class RunsTest {
             case 25: due.is(say(name, "get", s, form, i), x.get(s, form, i), y.get(s, form, i)); break;
             case 26: due.is(say(name, "copy", s, i, t, j, n), x.copy(s, i, t, j, n), y.copy(s, i, t, j, n)); break;
             case 27: {
-                int owner = value(-1, 5);
+                int owner = ownerOf(-1);
                 int place = value(0, 4);
                 due.is(say(name, "list", s, owner, place), x.list(s, owner, place), y.list(s, owner, place));
                 break;
@@ -196,7 +208,7 @@ public final class RunsTest {
 
     private void makeBatch(String name) {
         int kind = kindOf(1);
-        int owner = draw(2) == 0 ? -1 : value(-1, 5);
+        int owner = draw(2) == 0 ? -1 : ownerOf(-1);
         int most = draw(3) == 0 ? value(1, 20) : value(1, 2);
         due.is(say(name, "batch", kind, owner, most), x.batch(kind, owner, most), y.batch(kind, owner, most));
     }
@@ -207,6 +219,20 @@ public final class RunsTest {
 
     private int pieceOf() {
         return value(0, Math.max(0, y.pieces.size() - (draw(20) == 0 ? 0 : 1)));
+    }
+
+    private int ownerOf(int least) {
+        return value(least, draw(8) == 0 ? 5 : owners - 1);
+    }
+
+    /** Mostly a piece that the call can do something with. */
+    private int pieceFor(int number) {
+        return draw(3) == 0 ? pieceOf() : pieceAt(number == 5 ? CLEAN : number == HAND ? OUT : draw(LOST + 1));
+    }
+
+    private int pieceAt(int place) {
+        List<NaiveHouse.Piece> those = y.those(-1, -1, place);
+        return those.isEmpty() ? pieceOf() : those.get(draw(those.size())).number;
     }
 
     private int formOf(int s) {
